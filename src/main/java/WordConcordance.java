@@ -594,7 +594,7 @@ public final class WordConcordance {
         boolean isFound = row.firstPlaceOf(wanted, 0, row.length) != NONE;
         int apart = row.timesApart(wanted);
         int anywhere = row.timesAnywhere(wanted);
-        return apart <= anywhere && apart > 0 == isFound && anywhere > 0 == isFound;
+        return apart <= anywhere && (apart > 0) == isFound && (anywhere > 0) == isFound;
     }
 
     private boolean findsInMirror(Row row) {

@@ -89,7 +89,11 @@ public final class PlaceTest {
         Check.is("common before", common(x, 0, 1), "3 0 0");
         x.cut(1, 2, 3);
         Check.is("common without what was cut off", common(x, 0, 1), "2 0 0");
-        Check.is("common after a longer one", common(x, 0, 2), "0 0 0");
+        Check.is("common with no words after that", common(x, 0, 2), "0 0 0");
+        WordConcordance y = two(new int[] {3}, 1, 2, 3);
+        Check.is("common with three words", common(y, 0, 1), "1 0 2");
+        y.remove(1, 1);
+        Check.is("common with two of them", common(y, 0, 1), "1 0 1");
     }
 
     // Promise 41
