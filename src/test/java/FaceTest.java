@@ -30,7 +30,6 @@ public final class FaceTest {
         Check.is("one constructor", constructors.length, 1);
         Check.is("it is public", Modifier.isPublic(constructors[0].getModifiers()), true);
         Check.is("it takes nothing", constructors[0].getParameterCount() + constructors[0].getExceptionTypes().length, 0);
-        newObject();
         Check.end();
     }
 
@@ -78,20 +77,5 @@ public final class FaceTest {
             }
         }
         return all;
-    }
-
-    // Promise 1
-    private static void newObject() {
-        WordConcordance x = new WordConcordance();
-        for (int text = 0; text < 4; text++) {
-            Check.is("size of the new text " + text, x.size(text), 0);
-        }
-        Check.is("new WANTED", Check.phrase(x, 0), "[]");
-        Check.is("new NEW", Check.phrase(x, 1), "[]");
-        for (int word = 0; word < 100; word++) {
-            Check.is("rank of the new word " + word, x.setRank(word, 1), 0);
-        }
-        x.add(0, 1);
-        Check.is("another object", new WordConcordance().size(0), 0);
     }
 }

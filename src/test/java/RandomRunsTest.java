@@ -66,7 +66,7 @@ public final class RandomRunsTest {
             Check.is("run " + run + ", size of " + text, x.size(text), model.texts.get(text).size());
         }
         for (int phrase = 0; phrase < 2; phrase++) {
-            Check.is("run " + run + ", phrase " + phrase, Check.phrase(x, phrase), model.phrases.get(phrase).toString());
+            Check.is("run " + run + ", phrase " + phrase, Room.phrase(x, phrase), model.phrases.get(phrase).toString());
         }
         for (int word = 0; word < 100; word++) {
             Check.is("run " + run + ", rank of " + word, x.setRank(word, 0), model.ranks[word]);
