@@ -36,7 +36,7 @@ final class OrderSentences extends Sentences {
     }
 
     private static void greatest() {
-        promise(28);
+        asks(28);
         says("Returns the greatest word of a text, or the greatest rank of its words.", () -> {
             told(ranked(2, 9, 1), 9, x -> x.greatest(0, BY_NUMBER));
             told(ranked(2, 9, 1), 4, x -> x.greatest(0, BY_RANK));
@@ -48,6 +48,10 @@ final class OrderSentences extends Sentences {
             limits(ARGUMENT, FULL, 0, 1, (x, order) -> x.greatest(0, order));
         });
         says("Returns this.", () -> {
+            told(ONE, 9, x -> x.greatest(3, BY_NUMBER));
+            told(ONE, 2, x -> x.greatest(0, BY_RANK));
+            told(ONE, -2, x -> x.greatest(2, BY_RANK));
+            told(Room::counted, 59, x -> x.greatest(0, BY_NUMBER));
             told(ranked(99, 0), 99, x -> x.greatest(0, BY_NUMBER));
             told(ranked(0, 99), 99, x -> x.greatest(0, BY_NUMBER));
             told(ranked(0), 0, x -> x.greatest(0, BY_NUMBER));
@@ -82,7 +86,7 @@ final class OrderSentences extends Sentences {
     }
 
     private static void least() {
-        promise(29);
+        asks(29);
         says("Returns the least word of a text, or the least rank of its words.", () -> {
             told(ranked(2, 1, 9), 1, x -> x.least(0, BY_NUMBER));
             told(ranked(9, 1, 2), -5, x -> x.least(0, BY_RANK));
@@ -94,6 +98,10 @@ final class OrderSentences extends Sentences {
             limits(ARGUMENT, FULL, 0, 1, (x, order) -> x.least(0, order));
         });
         says("Returns this.", () -> {
+            told(ONE, 9, x -> x.least(3, BY_NUMBER));
+            told(ONE, 2, x -> x.least(0, BY_RANK));
+            told(ONE, -2, x -> x.least(2, BY_RANK));
+            told(Room::counted, 0, x -> x.least(0, BY_NUMBER));
             told(ranked(99, 0), 0, x -> x.least(0, BY_NUMBER));
             told(ranked(0, 99), 0, x -> x.least(0, BY_NUMBER));
             told(ranked(99), 99, x -> x.least(0, BY_NUMBER));
@@ -134,7 +142,7 @@ final class OrderSentences extends Sentences {
     }
 
     private static void sort() {
-        promise(30);
+        changes(30);
         text(FULL, (x, text) -> x.sort(text, BY_RANK, true));
         says("order: BY_NUMBER or BY_RANK", () -> {
             is("by number", sorted(BY_NUMBER, false, ranked(3, 9, 1)), "[1, 3, 9]");
@@ -149,6 +157,9 @@ final class OrderSentences extends Sentences {
             is("by rank down", sorted(BY_RANK, true, ranked(9, 1, 2)), "[2, 9, 1]");
         });
         says("Returns how many places have another word then than before.", () -> {
+            told(ONE, 0, x -> x.sort(0, BY_RANK, true));
+            done(SAMPLE, 3, 1, x -> x.sort(1, BY_NUMBER, false));
+            done(Room::counted, 60, 0, x -> x.sort(0, BY_NUMBER, true));
             is("but one", of(9, 0, 5, 99).sort(0, BY_NUMBER, false), 3);
             is("two alike words change their places", of(5, 4, 5, 4, 6).sort(0, BY_NUMBER, false), 2);
             is("all", of(2, 1).sort(0, BY_NUMBER, false), 2);
@@ -188,17 +199,27 @@ final class OrderSentences extends Sentences {
             told(allWords(60, 99), 0, x -> x.sort(0, BY_RANK, false));
             told(allWords(60, 99), 0, x -> x.sort(0, BY_RANK, true));
         });
+        says("Sorts a text; words that are alike in the order stay among them as they stood.", () -> {
+            WordConcordance x = Room.counted();
+            for (int word = 0; word < 60; word += 2) {
+                x.setRank(word, 1);
+            }
+            x.sort(0, BY_RANK, false);
+            is("a full text of two ranks", x.at(0, 0) + " " + x.at(0, 29) + " " + x.at(0, 30) + " " + x.at(0, 59), "1 59 0 58");
+            x.sort(0, BY_RANK, true);
+            is("the same one down", x.at(0, 0) + " " + x.at(0, 29) + " " + x.at(0, 30) + " " + x.at(0, 59), "0 58 1 59");
+        });
     }
 
     private static void isSorted() {
-        promise(31);
+        asks(31);
         says("Tells whether a text is sorted.", () -> {
             told(ranked(1, 2, 2, 9), true, x -> x.isSorted(0, BY_NUMBER));
             told(ranked(1, 2, 1, 9), false, x -> x.isSorted(0, BY_NUMBER));
             told(ranked(1, 9, 7, 3, 2), true, x -> x.isSorted(0, BY_RANK));
             told(ranked(9, 1), false, x -> x.isSorted(0, BY_RANK));
         });
-        text(EMPTY, (x, text) -> x.isSorted(text, BY_NUMBER));
+        text(FULL, (x, text) -> x.isSorted(text, BY_NUMBER));
         says("order: BY_NUMBER or BY_RANK", () -> {
             told(ranked(1, 9, 7, 3, 2), false, x -> x.isSorted(0, BY_NUMBER));
             told(ranked(1, 3, 9), false, x -> x.isSorted(0, BY_RANK));
@@ -206,6 +227,9 @@ final class OrderSentences extends Sentences {
             limits(ARGUMENT, EMPTY, 0, 1, (x, order) -> x.isSorted(0, order));
         });
         says("Returns whether it is.", () -> {
+            told(ONE, true, x -> x.isSorted(2, BY_RANK));
+            told(FULL, false, x -> x.isSorted(0, BY_NUMBER));
+            told(Room::counted, true, x -> x.isSorted(0, BY_NUMBER));
             told(EMPTY, true, x -> x.isSorted(0, BY_NUMBER));
             told(EMPTY, true, x -> x.isSorted(0, BY_RANK));
             told(ranked(1), true, x -> x.isSorted(0, BY_NUMBER));
@@ -233,21 +257,21 @@ final class OrderSentences extends Sentences {
     }
 
     private static void search() {
-        promise(32);
+        asks(32);
         says("Searches a sorted text for a word, or for one with the same rank.", () -> {
             told(ranked(1, 3, 5), -2, x -> x.search(0, BY_NUMBER, 3));
             told(ranked(1, 3, 5), 1, x -> x.search(0, BY_NUMBER, 2));
             told(ranked(1, 9, 3), -2, x -> x.search(0, BY_RANK, 2));
             told(ranked(1, 9, 3), -2, x -> x.search(0, BY_RANK, 55));
         });
-        text(EMPTY, (x, text) -> x.search(text, BY_NUMBER, 5));
+        text(ONE, (x, text) -> x.search(text, BY_NUMBER, 5));
         says("order: BY_NUMBER or BY_RANK", () -> {
             told(ranked(0, 9), 1, x -> x.search(0, BY_NUMBER, 4));
             told(ranked(0, 9), -2, x -> x.search(0, BY_RANK, 4));
             limits(ARGUMENT, EMPTY, 0, 1, (x, order) -> x.search(0, order, 5));
             limits(ARGUMENT, () -> Room.ofMany(1, 60), 0, 1, (x, order) -> x.search(0, order, 5));
         });
-        word(EMPTY, (x, word) -> x.search(0, BY_RANK, word));
+        word(ONE, (x, word) -> x.search(0, BY_RANK, word));
     }
 
     private static void searchPlaces() {
@@ -276,6 +300,13 @@ final class OrderSentences extends Sentences {
                 Object due = rank == -5 || rank == 0 || rank == 4 ? -2 : rank < -5 ? 0 : rank < 0 ? 1 : rank < 4 ? 3 : 4;
                 told(ranks, due, x -> x.search(0, BY_RANK, 40));
             }
+            told(ONE, 0, x -> x.search(0, BY_NUMBER, 6));
+            told(ONE, -2, x -> x.search(0, BY_NUMBER, 7));
+            told(ONE, 1, x -> x.search(0, BY_NUMBER, 8));
+            told(ONE, 0, x -> x.search(0, BY_RANK, 9));
+            told(ONE, 1, x -> x.search(2, BY_RANK, 9));
+            told(Room::counted, -2, x -> x.search(0, BY_NUMBER, 59));
+            told(Room::counted, 60, x -> x.search(0, BY_NUMBER, 60));
             told(() -> Room.ofMany(5, 60), 0, x -> x.search(0, BY_NUMBER, 4));
             told(() -> Room.ofMany(5, 60), -2, x -> x.search(0, BY_NUMBER, 5));
             told(() -> Room.ofMany(5, 60), 60, x -> x.search(0, BY_NUMBER, 6));

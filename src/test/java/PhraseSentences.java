@@ -42,17 +42,14 @@ final class PhraseSentences extends Sentences {
     /** A full text of the words 0 to 59, and as WANTED phrase a part of it. */
     private static Room lookingInFull(int from, int to) {
         return () -> {
-            WordConcordance x = new WordConcordance();
-            for (int word = 0; word < 60; word++) {
-                x.add(0, word);
-            }
+            WordConcordance x = Room.counted();
             x.quote(WANTED, 0, from, to);
             return x;
         };
     }
 
     private static void say() {
-        promise(13);
+        changes(13);
         says("Puts a word behind all others of a phrase.", () -> {
             WordConcordance x = new WordConcordance();
             x.say(WANTED, 4);
@@ -63,9 +60,14 @@ final class PhraseSentences extends Sentences {
             x.say(NEW, 5);
             is("both", phrase(x, WANTED) + phrase(x, NEW), "[4, 9, 7][5]");
         });
-        phraseNumber(EMPTY, (x, phrase) -> x.say(phrase, 5));
-        word(EMPTY, (x, word) -> x.say(NEW, word));
+        phraseNumber(ONE, (x, phrase) -> x.say(phrase, 5));
+        word(ONE, (x, word) -> x.say(NEW, word));
         says("Returns how many words the phrase has then.", () -> {
+            done(EMPTY, 1, WANTED_PART, x -> x.say(WANTED, 0));
+            done(EMPTY, 1, NEW_PART, x -> x.say(NEW, 99));
+            done(ONE, 2, NEW_PART, x -> x.say(NEW, 5));
+            done(SAMPLE, 4, NEW_PART, x -> x.say(NEW, 5));
+            done(lookingInFull(0, 11), 12, WANTED_PART, x -> x.say(WANTED, 5));
             WordConcordance x = new WordConcordance();
             for (int word = 1; word <= 12; word++) {
                 is("word " + word, x.say(NEW, word), word);
@@ -79,6 +81,13 @@ final class PhraseSentences extends Sentences {
             refused(INDEX, SAMPLE, x -> x.say(NEW, -1));
         });
         says("Throws IllegalStateException if it has 12 words", () -> {
+            Room onlyNew = () -> {
+                WordConcordance x = Room.counted();
+                x.quote(NEW, 0, 0, 12);
+                return x;
+            };
+            refused(STATE, onlyNew, x -> x.say(NEW, 5));
+            taken(onlyNew, x -> x.say(WANTED, 5));
             refused(STATE, FULL, x -> x.say(WANTED, 0));
             refused(STATE, FULL, x -> x.say(NEW, 99));
             taken(lookingInFull(0, 10), x -> x.say(WANTED, 5));
@@ -89,7 +98,7 @@ final class PhraseSentences extends Sentences {
     }
 
     private static void quote() {
-        promise(14);
+        changes(14);
         says("Makes a part of a text a phrase.", () -> {
             WordConcordance x = of(1, 2, 3, 4, 5);
             x.quote(WANTED, 0, 1, 4);
@@ -108,6 +117,12 @@ final class PhraseSentences extends Sentences {
         text(SAMPLE, (x, text) -> x.quote(WANTED, text, 0, 0));
         part((x, text, from, to) -> x.quote(NEW, text, from, to));
         says("Returns how many words the phrase has then.", () -> {
+            done(ONE, 1, WANTED_PART, x -> x.quote(WANTED, 3, 0, 1));
+            done(ONE, 0, NEW_PART, x -> x.quote(NEW, 0, 1, 1));
+            told(EMPTY, 0, x -> x.quote(NEW, 0, 0, 0));
+            done(Room::counted, 12, NEW_PART, x -> x.quote(NEW, 0, 48, 60));
+            done(FULL, 12, NEW_PART, x -> x.quote(NEW, 0, 0, 12));
+            done(FULL, 0, WANTED_PART, x -> x.quote(WANTED, 2, 60, 60));
             WordConcordance x = Room.FULL.open();
             is("twelve words", x.quote(NEW, 0, 0, 12), 12);
             is("one word", x.quote(NEW, 0, 59, 60), 1);
@@ -125,6 +140,8 @@ final class PhraseSentences extends Sentences {
             noParts((x, text, from, to) -> x.quote(WANTED, text, from, to));
         });
         says("Throws IllegalStateException if the part has more than 12 words", () -> {
+            refused(STATE, Room::counted, x -> x.quote(WANTED, 0, 0, 13));
+            refused(STATE, Room::counted, x -> x.quote(NEW, 0, 47, 60));
             taken(FULL, x -> x.quote(WANTED, 0, 0, 12));
             refused(STATE, FULL, x -> x.quote(WANTED, 0, 0, 13));
             taken(FULL, x -> x.quote(NEW, 3, 48, 60));
@@ -135,7 +152,7 @@ final class PhraseSentences extends Sentences {
     }
 
     private static void hush() {
-        promise(15);
+        changes(15);
         says("Removes all words from a phrase.", () -> {
             WordConcordance x = Room.FULL.open();
             String other = phrase(x, NEW);
@@ -147,8 +164,12 @@ final class PhraseSentences extends Sentences {
             x.hush(NEW);
             is("both", phrase(x, WANTED) + phrase(x, NEW), "[8][]");
         });
-        phraseNumber(EMPTY, (x, phrase) -> x.hush(phrase));
+        phraseNumber(ONE, (x, phrase) -> x.hush(phrase));
         says("Returns how many there were.", () -> {
+            done(ONE, 1, WANTED_PART, x -> x.hush(WANTED));
+            done(ONE, 1, NEW_PART, x -> x.hush(NEW));
+            done(SAMPLE, 3, NEW_PART, x -> x.hush(NEW));
+            done(FULL, 12, WANTED_PART, x -> x.hush(WANTED));
             told(EMPTY, 0, x -> x.hush(WANTED));
             told(EMPTY, 0, x -> x.hush(NEW));
             WordConcordance x = Room.FULL.open();
@@ -165,7 +186,7 @@ final class PhraseSentences extends Sentences {
     }
 
     private static void wordOf() {
-        promise(16);
+        asks(16);
         Room room = replacing(row(4, 6, 0), row(99));
         says("Returns a word of a phrase.", () -> {
             told(room, 4, x -> x.wordOf(WANTED, 0));
@@ -182,6 +203,8 @@ final class PhraseSentences extends Sentences {
             never(INDEX, EMPTY, (x, place) -> x.wordOf(NEW, place));
         });
         says("Returns the word.", () -> {
+            told(ONE, 7, x -> x.wordOf(WANTED, 0));
+            told(ONE, 8, x -> x.wordOf(NEW, 0));
             told(room, 0, x -> x.wordOf(WANTED, 2));
             told(lookingInFull(48, 60), 48, x -> x.wordOf(WANTED, 0));
             told(lookingInFull(48, 60), 59, x -> x.wordOf(WANTED, 11));
@@ -199,7 +222,7 @@ final class PhraseSentences extends Sentences {
     }
 
     private static void find() {
-        promise(17);
+        asks(17);
         says("Finds the WANTED phrase in a text.", () -> {
             told(looking(row(1, 2), 1, 1, 2, 1, 2), 1, x -> x.find(0));
             told(replacing(row(3), row(1), 1, 2, 3), 2, x -> x.find(0));
@@ -207,6 +230,10 @@ final class PhraseSentences extends Sentences {
         });
         text(FULL, (x, text) -> x.find(text));
         says("Returns the first place at which it stands; NONE if there is none.", () -> {
+            told(ONE, 0, x -> x.find(0));
+            told(ONE, -1, x -> x.find(2));
+            told(FULL, 0, x -> x.find(0));
+            told(FULL, -1, x -> x.find(3));
             told(looking(row(1), 1, 1), 0, x -> x.find(0));
             told(looking(row(8, 9), 1, 8, 8, 9), 2, x -> x.find(0));
             told(looking(row(8, 9), 8, 9), 0, x -> x.find(0));
@@ -232,7 +259,7 @@ final class PhraseSentences extends Sentences {
     }
 
     private static void findLast() {
-        promise(18);
+        asks(18);
         says("Finds the WANTED phrase in a text, from its end.", () -> {
             told(looking(row(1, 2), 1, 2, 1, 2, 1), 2, x -> x.findLast(0));
             told(replacing(row(3), row(1), 3, 2, 1), 0, x -> x.findLast(0));
@@ -240,6 +267,10 @@ final class PhraseSentences extends Sentences {
         });
         text(FULL, (x, text) -> x.findLast(text));
         says("Returns the last place at which it stands; NONE if there is none.", () -> {
+            told(ONE, 0, x -> x.findLast(0));
+            told(ONE, -1, x -> x.findLast(2));
+            told(FULL, 0, x -> x.findLast(0));
+            told(FULL, -1, x -> x.findLast(3));
             told(looking(row(1), 1, 1), 1, x -> x.findLast(0));
             told(looking(row(8, 9), 8, 9, 8), 0, x -> x.findLast(0));
             told(looking(row(1, 2, 1), 1, 2, 1, 2, 1), 2, x -> x.findLast(0));
@@ -262,7 +293,7 @@ final class PhraseSentences extends Sentences {
     }
 
     private static void findIn() {
-        promise(19);
+        asks(19);
         Room room = looking(row(1, 2), 1, 2, 1, 2, 1);
         says("Finds the WANTED phrase in a part of a text.", () -> {
             told(room, 0, x -> x.findIn(0, 0, 5));
@@ -270,7 +301,7 @@ final class PhraseSentences extends Sentences {
             told(replacing(row(3), row(1), 1, 2, 3), 2, x -> x.findIn(0, 0, 3));
             told(room, -1, x -> x.findIn(1, 0, 0));
         });
-        text(EMPTY, (x, text) -> x.findIn(text, 0, 0));
+        text(FULL, (x, text) -> x.findIn(text, 0, 60));
         part((x, text, from, to) -> x.findIn(text, from, to));
         says("Returns the first place of the text at which it stands within the part, with all of its words; NONE if there is none.",
             () -> {
@@ -289,6 +320,11 @@ final class PhraseSentences extends Sentences {
             told(lookingInFull(48, 60), 48, x -> x.findIn(0, 48, 60));
             told(lookingInFull(48, 60), -1, x -> x.findIn(0, 49, 60));
             told(lookingInFull(48, 60), -1, x -> x.findIn(0, 0, 59));
+            told(ONE, 0, x -> x.findIn(0, 0, 1));
+            told(ONE, -1, x -> x.findIn(0, 1, 1));
+            told(ONE, -1, x -> x.findIn(0, 0, 0));
+            told(FULL, 0, x -> x.findIn(0, 0, 12));
+            told(FULL, -1, x -> x.findIn(0, 0, 11));
             told(lookingInFull(60, 60), 60, x -> x.findIn(0, 60, 60));
         });
         says("Throws IndexOutOfBoundsException if there is no such text or part", () -> {
@@ -299,7 +335,7 @@ final class PhraseSentences extends Sentences {
     }
 
     private static void count() {
-        promise(20);
+        asks(20);
         says("Counts how often the WANTED phrase stands in a text.", () -> {
             told(looking(row(1, 2), 1, 2, 1, 2, 1), 2, x -> x.count(0, false));
             told(looking(row(1, 2), 1, 2, 1, 2, 1), 2, x -> x.count(0, true));
@@ -308,6 +344,12 @@ final class PhraseSentences extends Sentences {
         });
         text(FULL, (x, text) -> x.count(text, true));
         says("Returns how often.", () -> {
+            told(ONE, 1, x -> x.count(0, true));
+            told(ONE, 1, x -> x.count(1, false));
+            told(ONE, 0, x -> x.count(2, true));
+            told(ONE, 0, x -> x.count(3, false));
+            told(FULL, 1, x -> x.count(0, true));
+            told(FULL, 0, x -> x.count(3, false));
             told(looking(row(3)), 0, x -> x.count(0, false));
             told(looking(row(3)), 0, x -> x.count(0, true));
             told(looking(row(3, 4, 5), 3, 4), 0, x -> x.count(0, false));
@@ -360,7 +402,7 @@ final class PhraseSentences extends Sentences {
     }
 
     private static void replace() {
-        promise(21);
+        changes(21);
         says(TAKES_PLACE, () -> {
             is("by less", replaced(row(1, 2), row(9), 1, 2, 3, 1, 2), "[9, 3, 9]");
             is("by more", replaced(row(1), row(9, 8), 0, 1, 1, 7), "[0, 9, 8, 9, 8, 7]");
@@ -402,6 +444,13 @@ final class PhraseSentences extends Sentences {
         });
         text(FULL, (x, text) -> x.replace(text));
         says("Returns how often.", () -> {
+            done(ONE, 1, 0, x -> x.replace(0));
+            done(ONE, 1, 1, x -> x.replace(1));
+            told(ONE, 0, x -> x.replace(2));
+            done(FULL, 1, 0, x -> x.replace(0));
+            told(FULL, 0, x -> x.replace(3));
+            done(doubling(30), 30, 0, x -> x.replace(0));
+            done(replacing(row(4), row(), 4), 1, 0, x -> x.replace(0));
             is("twice", replacing(row(1, 2), row(9), 1, 2, 3, 1, 2).open().replace(0), 2);
             is("apart", replacing(row(3, 3), row(9), 3, 3, 3, 3, 3).open().replace(0), 2);
             told(replacing(row(4), row(9), 1, 2), 0, x -> x.replace(0));
@@ -423,6 +472,14 @@ final class PhraseSentences extends Sentences {
             refused(STATE, EMPTY, x -> x.replace(0));
             refused(STATE, replacing(row(), row(5), 1, 2, 3), x -> x.replace(0));
             refused(STATE, replacing(row(), row(), 1, 2, 3), x -> x.replace(0));
+            Room hushed = () -> {
+                WordConcordance x = SAMPLE.open();
+                x.hush(WANTED);
+                return x;
+            };
+            refused(STATE, hushed, x -> x.replace(0));
+            refused(STATE, hushed, x -> x.replace(1));
+            refused(STATE, hushed, x -> x.replace(2));
             refused(STATE, replacing(row(), row(5), 1, 2, 3), x -> x.replace(1));
         });
         says(state, () -> {
@@ -432,6 +489,13 @@ final class PhraseSentences extends Sentences {
             refused(STATE, growing(59, 2), x -> x.replace(0));
             refused(STATE, growing(49, 12), x -> x.replace(0));
             taken(growing(48, 12), x -> x.replace(0));
+            Room longer = () -> {
+                WordConcordance x = FULL.open();
+                x.quote(WANTED, 0, 0, 11);
+                return x;
+            };
+            refused(STATE, longer, x -> x.replace(0));
+            taken(longer, x -> x.replace(3));
             taken(growing(59, 0), x -> x.replace(0));
         });
         says(state, () -> {

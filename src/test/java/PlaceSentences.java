@@ -39,7 +39,7 @@ final class PlaceSentences extends Sentences {
     };
 
     private static void stands() {
-        promise(38);
+        asks(38);
         says("Tells where a word stands, in all texts.", () -> {
             told(SPREAD, 0, x -> x.stands(4, 0));
             told(SPREAD, 2, x -> x.stands(4, 1));
@@ -58,6 +58,10 @@ final class PlaceSentences extends Sentences {
             }
         });
         says("Returns 100 times the number of the text, plus the place.", () -> {
+            told(ONE, 0, x -> x.stands(7, 0));
+            told(ONE, 100, x -> x.stands(7, 1));
+            told(ONE, 300, x -> x.stands(9, 0));
+            told(Room::counted, 59, x -> x.stands(59, 0));
             told(SPREAD, 1, x -> x.stands(1, 0));
             told(SPREAD, 200, x -> x.stands(1, 1));
             told(EVERYWHERE, 59, x -> x.stands(7, 59));
@@ -70,6 +74,10 @@ final class PlaceSentences extends Sentences {
             refused(INDEX, EMPTY, x -> x.stands(100, -1));
         });
         says("Throws NoSuchElementException if there is no such place", () -> {
+            refused(NO_ELEMENT, ONE, x -> x.stands(7, 2));
+            refused(NO_ELEMENT, ONE, x -> x.stands(9, -1));
+            refused(NO_ELEMENT, SAMPLE, x -> x.stands(7, GREATEST));
+            refused(NO_ELEMENT, FULL, x -> x.stands(0, 240));
             refused(NO_ELEMENT, EMPTY, x -> x.stands(0, 0));
             refused(NO_ELEMENT, SPREAD, x -> x.stands(5, 0));
             refused(NO_ELEMENT, SPREAD, x -> x.stands(4, 3));
@@ -86,7 +94,7 @@ final class PlaceSentences extends Sentences {
     private static final Room ROUND = () -> of(8, 1, 2, 8, 3, 8);
 
     private static void near() {
-        promise(39);
+        asks(39);
         says("Finds the place of a word that is nearest to a place of a text.", () -> {
             told(ROUND, 3, x -> x.near(0, 3, 8));
             told(ROUND, 3, x -> x.near(0, 2, 8));
@@ -101,6 +109,9 @@ final class PlaceSentences extends Sentences {
 
     private static void nearest() {
         says("Returns its place, of two as near the lesser one; NONE if there is none.", () -> {
+            told(ONE, 0, x -> x.near(3, 0, 9));
+            told(ONE, -1, x -> x.near(3, 0, 8));
+            told(Room::counted, 59, x -> x.near(0, 0, 59));
             told(ROUND, 3, x -> x.near(0, 4, 8));
             told(() -> of(8, 1, 8), 0, x -> x.near(0, 1, 8));
             told(() -> of(8, 8, 8), 1, x -> x.near(0, 1, 8));
@@ -117,6 +128,15 @@ final class PlaceSentences extends Sentences {
             };
             told(ends, 59, x -> x.near(0, 0, 3));
             told(ends, 0, x -> x.near(0, 59, 2));
+            Room wide = () -> {
+                WordConcordance x = Room.ofMany(1, 60);
+                x.set(0, 0, 2);
+                x.set(0, 58, 2);
+                return x;
+            };
+            told(wide, 0, x -> x.near(0, 29, 2));
+            told(wide, 58, x -> x.near(0, 30, 2));
+            told(wide, 58, x -> x.near(0, 59, 2));
             WordConcordance x = of(1, 2);
             x.remove(0, 1);
             is("one that was removed", x.near(0, 0, 2), -1);
@@ -148,7 +168,7 @@ final class PlaceSentences extends Sentences {
     }
 
     private static void common() {
-        promise(40);
+        asks(40);
         says("Finds the longest part of a text that stands in another one, too, of several the one that begins first.", () -> {
             is("between", common(two(row(1, 2, 3, 4), 9, 2, 3, 9), 0, 1), "2 1 1");
             is("the longest one", common(two(row(5, 0, 1, 2, 0, 3, 4, 5), 3, 4, 5, 9, 1, 2), 0, 1), "3 5 0");
@@ -156,8 +176,8 @@ final class PlaceSentences extends Sentences {
             is("a row of one word", common(two(row(4, 4, 4), 4, 4), 0, 1), "2 0 0");
             told(Room.SAMPLE, 4, x -> x.common(1, 1, 0));
         });
-        one(EMPTY, (x, one) -> x.common(one, 0, 0));
-        says("other: number of the other one", () -> numbers(EMPTY, 0, 3, (x, other) -> x.common(0, other, 0)));
+        one(FULL, (x, one) -> x.common(one, 0, 0));
+        says("other: number of the other one", () -> numbers(FULL, 0, 3, (x, other) -> x.common(0, other, 0)));
         says("what: 0 for how many words it has, 1 for where it begins in the first text, 2 for the first place at which it stands "
             + "in the other one", () -> {
             limits(ARGUMENT, EMPTY, 0, 2, (x, what) -> x.common(0, 1, what));
@@ -173,6 +193,13 @@ final class PlaceSentences extends Sentences {
 
     private static void commonPlaces() {
         says("Returns this (0 each if they have no word in common).", () -> {
+            told(ONE, 1, x -> x.common(0, 1, 0));
+            told(ONE, 0, x -> x.common(0, 1, 2));
+            told(ONE, 0, x -> x.common(0, 2, 0));
+            told(ONE, 0, x -> x.common(3, 0, 1));
+            told(FULL, 60, x -> x.common(3, 3, 0));
+            told(Room::counted, 0, x -> x.common(0, 1, 0));
+            told(EMPTY, 0, x -> x.common(0, 1, 2));
             is("no word in common", common(two(row(1, 2), 3, 4), 0, 1), "0 0 0");
             is("of no words", common(two(row(), 1, 2), 0, 1), "0 0 0");
             is("with no words", common(two(row(1, 2)), 0, 1), "0 0 0");
@@ -215,9 +242,9 @@ final class PlaceSentences extends Sentences {
     }
 
     private static void refuses() {
-        promise(41);
+        asks(41);
         says("Tries what must be refused with a row of copies of one word that never changes.", () -> {
-            for (Room room : new Room[] {EMPTY, SAMPLE, FULL}) {
+            for (Room room : new Room[] {EMPTY, ONE, SAMPLE, FULL}) {
                 for (int what = 0; what <= 4; what++) {
                     int one = what;
                     told(room, true, x -> x.refuses(one));
@@ -243,9 +270,9 @@ final class PlaceSentences extends Sentences {
     }
 
     private static void errors() {
-        promise(42);
+        asks(42);
         says("Checks what the theorem says about a text and the WANTED phrase, on copies; nothing changes.", () -> {
-            for (Room room : new Room[] {EMPTY, SAMPLE, FULL, SPREAD, EVERYWHERE}) {
+            for (Room room : new Room[] {EMPTY, ONE, SAMPLE, FULL, SPREAD, EVERYWHERE}) {
                 for (int text = 0; text < 4; text++) {
                     int one = text;
                     told(room, 0, x -> x.errors(one));

@@ -10,7 +10,22 @@ interface Room {
     /** Four full texts, two full phrases, and ranks at both ends. */
     Room FULL = Room::full;
 
+    /** One word in each text and in each phrase, and some ranks. */
+    Room ONE = Room::ofOneEach;
+
     WordConcordance open();
+
+    private static WordConcordance ofOneEach() {
+        WordConcordance x = of(7);
+        put(x, 1, 7);
+        put(x, 2, 8);
+        put(x, 3, 9);
+        say(x, WordConcordance.WANTED, 7);
+        say(x, WordConcordance.NEW, 8);
+        x.setRank(7, 2);
+        x.setRank(8, -2);
+        return x;
+    }
 
     private static WordConcordance sample() {
         WordConcordance x = new WordConcordance();
@@ -42,6 +57,15 @@ interface Room {
     static WordConcordance of(int... words) {
         WordConcordance x = new WordConcordance();
         put(x, 0, words);
+        return x;
+    }
+
+    /** A full text 0 of the words 0 to 59. */
+    static WordConcordance counted() {
+        WordConcordance x = new WordConcordance();
+        for (int word = 0; word < 60; word++) {
+            x.add(0, word);
+        }
         return x;
     }
 
@@ -88,18 +112,20 @@ interface Room {
         return all.toString();
     }
 
-    /** All that stands in the object: it is used up by this, as its ranks can be read only by setting them. */
-    static String state(WordConcordance x) {
-        StringBuilder all = new StringBuilder();
+    /** The four texts, WANTED, NEW and the ranks. The object is used up by this, as ranks can be read only by setting them. */
+    static List<String> state(WordConcordance x) {
+        List<String> all = new ArrayList<>();
         for (int text = 0; text < 4; text++) {
-            all.append(words(x, text));
+            all.add(words(x, text));
         }
         for (int phrase = 0; phrase < 2; phrase++) {
-            all.append(phrase(x, phrase)).append(x.hush(phrase));
+            all.add(phrase(x, phrase) + x.hush(phrase));
         }
+        StringBuilder ranks = new StringBuilder();
         for (int word = 0; word < 100; word++) {
-            all.append(' ').append(x.setRank(word, 0));
+            ranks.append(' ').append(x.setRank(word, 0));
         }
-        return all.toString();
+        all.add(ranks.toString());
+        return all;
     }
 }

@@ -1,3 +1,6 @@
+import java.util.ArrayList;
+import java.util.List;
+
 /** What the tests of the document's sentences share: a test for a sentence, and the limits of what a call takes. */
 abstract class Sentences {
     static final Class<? extends RuntimeException> INDEX = Check.INDEX;
@@ -7,6 +10,7 @@ abstract class Sentences {
     static final Room EMPTY = Room.EMPTY;
     static final Room SAMPLE = Room.SAMPLE;
     static final Room FULL = Room.FULL;
+    static final Room ONE = Room.ONE;
     static final int LEAST = Integer.MIN_VALUE;
     static final int GREATEST = Integer.MAX_VALUE;
     static final int WANTED = WordConcordance.WANTED;
@@ -14,7 +18,13 @@ abstract class Sentences {
     static final int BY_NUMBER = WordConcordance.BY_NUMBER;
     static final int BY_RANK = WordConcordance.BY_RANK;
 
+    /** The parts of a state that is read by Room.state; the texts have their own numbers. */
+    static final int WANTED_PART = 4;
+    static final int NEW_PART = 5;
+    static final int RANKS_PART = 6;
+
     private static int promise;
+    private static int mostChanged;
     private static String sentence;
 
     interface NumberCall {
@@ -29,9 +39,16 @@ abstract class Sentences {
         Object on(WordConcordance x, int text, int from, int to);
     }
 
-    /** The promise whose sentences come next; 0 for what stands before the first one. */
-    static void promise(int number) {
+    /** A promise whose call asks only: its sentences come next. */
+    static void asks(int number) {
         promise = number;
+        mostChanged = 0;
+    }
+
+    /** A promise whose call may change one text, one phrase or the ranks; 0 for what stands before the first promise. */
+    static void changes(int number) {
+        promise = number;
+        mostChanged = 1;
     }
 
     /** A test of one sentence of the document, told in its own words. */
@@ -72,21 +89,42 @@ abstract class Sentences {
         is("what stands after " + what, Room.state(x), Room.state(room.open()));
     }
 
-    /** The call throws nothing. */
+    /** The call throws nothing, and changes no more than it may. */
     static void taken(Room room, Check.Call call) {
         taken(room, "the call", call);
     }
 
     private static void taken(Room room, String what, Check.Call call) {
-        Object answer = Check.answer(room.open(), call);
+        WordConcordance x = room.open();
+        Object answer = Check.answer(x, call);
         is(what + " is taken, not answered with " + answer, answer instanceof String, false);
+        is(what + " changes no more than it may", changed(x, room).size() <= mostChanged, true);
     }
 
     /** The call answers this, and all stands as before. */
     static void told(Room room, Object due, Check.Call call) {
         WordConcordance x = room.open();
         is("the answer", Check.answer(x, call), due);
-        is("what stands after it", Room.state(x), Room.state(room.open()));
+        is("what is changed after it", changed(x, room), List.of());
+    }
+
+    /** The call answers this, and changes just this part. */
+    static void done(Room room, Object due, int part, Check.Call call) {
+        WordConcordance x = room.open();
+        is("the answer", Check.answer(x, call), due);
+        is("what is changed after it", changed(x, room), List.of(part));
+    }
+
+    private static List<Integer> changed(WordConcordance x, Room room) {
+        List<String> before = Room.state(room.open());
+        List<String> after = Room.state(x);
+        List<Integer> all = new ArrayList<>();
+        for (int part = 0; part < before.size(); part++) {
+            if (!before.get(part).equals(after.get(part))) {
+                all.add(part);
+            }
+        }
+        return all;
     }
 
     /** In this room the call takes the numbers from first to last, and refuses all others. */
@@ -120,7 +158,7 @@ abstract class Sentences {
             int one = number;
             taken(room, "with " + number, x -> call.on(x, one));
         }
-        for (Room other : new Room[] {EMPTY, SAMPLE, FULL}) {
+        for (Room other : new Room[] {EMPTY, ONE, SAMPLE, FULL}) {
             refusedBeside(INDEX, other, first, last, call);
         }
     }

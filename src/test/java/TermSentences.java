@@ -1,3 +1,5 @@
+import java.util.List;
+
 /** What the document says before its promises, and promise 1. */
 final class TermSentences extends Sentences {
     private static final String RULES =
@@ -7,7 +9,7 @@ final class TermSentences extends Sentences {
     }
 
     static void all() {
-        promise(0);
+        changes(0);
         calls();
         orderInTexts();
         orderInPhrases();
@@ -298,15 +300,12 @@ final class TermSentences extends Sentences {
     }
 
     private static void newObject() {
-        promise(1);
+        changes(1);
         says("Creates a concordance with four empty texts, two empty phrases, and the rank 0 for all words.", () -> {
-            StringBuilder due = new StringBuilder("[][][][][]0[]0");
-            for (int word = 0; word < 100; word++) {
-                due.append(" 0");
-            }
-            is("a new object", Room.state(new WordConcordance()), due.toString());
+            List<String> due = List.of("[]", "[]", "[]", "[]", "[]0", "[]0", " 0".repeat(100));
+            is("a new object", Room.state(new WordConcordance()), due);
             WordConcordance other = Room.FULL.open();
-            is("a new object beside another one", Room.state(new WordConcordance()), due.toString());
+            is("a new object beside another one", Room.state(new WordConcordance()), due);
             is("the other one", Room.state(other), Room.state(Room.FULL.open()));
         });
     }

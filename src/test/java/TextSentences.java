@@ -23,7 +23,7 @@ final class TextSentences extends Sentences {
     }
 
     private static void add() {
-        promise(2);
+        changes(2);
         says("Puts a word behind all others of a text.", () -> {
             WordConcordance x = of(4, 9);
             x.add(0, 7);
@@ -35,9 +35,13 @@ final class TextSentences extends Sentences {
             y.add(0, 8);
             is("the last place", y.at(0, 58) + " " + y.at(0, 59), "1 8");
         });
-        text(EMPTY, (x, text) -> x.add(text, 5));
-        word(EMPTY, (x, word) -> x.add(0, word));
+        text(ONE, (x, text) -> x.add(text, 5));
+        word(ONE, (x, word) -> x.add(0, word));
         says("Returns how many words the text has then.", () -> {
+            done(EMPTY, 1, 3, x -> x.add(3, 0));
+            done(ONE, 2, 0, x -> x.add(0, 99));
+            done(SAMPLE, 5, 1, x -> x.add(1, 9));
+            done(() -> Room.ofMany(1, 59), 60, 0, x -> x.add(0, 1));
             WordConcordance x = new WordConcordance();
             is("the first word", x.add(2, 0), 1);
             is("the second word", x.add(2, 99), 2);
@@ -62,7 +66,7 @@ final class TextSentences extends Sentences {
     }
 
     private static void addMany() {
-        promise(3);
+        changes(3);
         says("Puts a word behind all others of a text, several times.", () -> {
             WordConcordance x = of(4);
             x.addMany(0, 6, 3);
@@ -71,8 +75,8 @@ final class TextSentences extends Sentences {
             is("once", words(x, 0), "[4, 6, 6, 6, 7]");
             is("the others", words(x, 1) + words(x, 2) + words(x, 3), "[][][]");
         });
-        text(EMPTY, (x, text) -> x.addMany(text, 5, 2));
-        word(EMPTY, (x, word) -> x.addMany(0, word, 2));
+        text(ONE, (x, text) -> x.addMany(text, 5, 2));
+        word(ONE, (x, word) -> x.addMany(0, word, 2));
         says("many: how often, 0 or more", () -> {
             told(SAMPLE, 4, x -> x.addMany(1, 9, 0));
             told(SAMPLE, 0, x -> x.addMany(2, 9, 0));
@@ -80,6 +84,11 @@ final class TextSentences extends Sentences {
             refused(ARGUMENT, SAMPLE, x -> x.addMany(1, 9, -1));
         });
         says("Returns how many words the text has then.", () -> {
+            done(EMPTY, 1, 1, x -> x.addMany(1, 6, 1));
+            done(EMPTY, 60, 3, x -> x.addMany(3, 6, 60));
+            done(ONE, 4, 2, x -> x.addMany(2, 6, 3));
+            told(ONE, 1, x -> x.addMany(0, 6, 0));
+            done(SAMPLE, 60, 1, x -> x.addMany(1, 6, 56));
             WordConcordance x = of(4);
             is("three more", x.addMany(0, 6, 3), 4);
             is("none more", x.addMany(0, 6, 0), 4);
@@ -114,7 +123,7 @@ final class TextSentences extends Sentences {
     }
 
     private static void scatter() {
-        promise(4);
+        changes(4);
         says("Puts drawn words behind all others of a text.", () -> {
             WordConcordance x = of(4);
             x.scatter(0, 5, 100, 1);
@@ -133,7 +142,7 @@ final class TextSentences extends Sentences {
                 }
             }
         });
-        text(EMPTY, (x, text) -> x.scatter(text, 3, 100, 7));
+        text(ONE, (x, text) -> x.scatter(text, 3, 100, 7));
         says("many: 0 to 60", () -> {
             limits(ARGUMENT, EMPTY, 0, 60, (x, many) -> x.scatter(0, many, 100, 7));
             told(SAMPLE, 4, x -> x.scatter(1, 0, 100, 7));
@@ -151,6 +160,11 @@ final class TextSentences extends Sentences {
             limits(ARGUMENT, FULL, 0, GREATEST, (x, seed) -> x.scatter(0, 0, 100, seed));
         });
         says("Returns how many words the text has then.", () -> {
+            done(EMPTY, 1, 1, x -> x.scatter(1, 1, 100, 7));
+            done(EMPTY, 60, 3, x -> x.scatter(3, 60, 100, 7));
+            done(ONE, 4, 2, x -> x.scatter(2, 3, 100, 7));
+            told(ONE, 1, x -> x.scatter(0, 0, 100, 7));
+            done(SAMPLE, 60, 1, x -> x.scatter(1, 56, 100, 7));
             WordConcordance x = of(4);
             is("five more", x.scatter(0, 5, 100, 1), 6);
             is("none more", x.scatter(0, 0, 100, 1), 6);
@@ -197,7 +211,7 @@ final class TextSentences extends Sentences {
     }
 
     private static void insert() {
-        promise(5);
+        changes(5);
         says("Inserts a word; the words from that place on go up by one place.", () -> {
             WordConcordance x = of(5);
             x.insert(0, 0, 6);
@@ -212,7 +226,7 @@ final class TextSentences extends Sentences {
             x.insert(0, 0, 2);
             is("the 60th", x.at(0, 0) + " " + x.at(0, 1) + " " + x.at(0, 4) + " " + x.at(0, 59), "2 6 7 1");
         });
-        text(EMPTY, (x, text) -> x.insert(text, 0, 5));
+        text(ONE, (x, text) -> x.insert(text, 0, 5));
         says("place: 0 up to the number of its words", () -> {
             limits(INDEX, SAMPLE, 0, 4, (x, place) -> x.insert(1, place, 6));
             limits(INDEX, SAMPLE, 0, 0, (x, place) -> x.insert(2, place, 6));
@@ -221,8 +235,12 @@ final class TextSentences extends Sentences {
                 refused(INDEX, FULL, x -> x.insert(0, place, 6));
             }
         });
-        word(EMPTY, (x, word) -> x.insert(0, 0, word));
+        word(ONE, (x, word) -> x.insert(0, 0, word));
         says("Returns how many words the text has then.", () -> {
+            done(EMPTY, 1, 3, x -> x.insert(3, 0, 0));
+            done(ONE, 2, 0, x -> x.insert(0, 1, 99));
+            done(SAMPLE, 5, 1, x -> x.insert(1, 2, 9));
+            done(() -> Room.ofMany(1, 59), 60, 0, x -> x.insert(0, 0, 2));
             WordConcordance x = new WordConcordance();
             is("the first word", x.insert(3, 0, 6), 1);
             is("the second word", x.insert(3, 0, 6), 2);
@@ -237,6 +255,8 @@ final class TextSentences extends Sentences {
             refused(INDEX, SAMPLE, x -> x.insert(1, -1, 6));
         });
         says("Throws IllegalStateException if it has 60 words", () -> {
+            refused(STATE, () -> Room.ofMany(1, 60), x -> x.insert(0, 0, 6));
+            taken(() -> Room.ofMany(1, 60), x -> x.insert(1, 0, 6));
             refused(STATE, FULL, x -> x.insert(0, 0, 6));
             refused(STATE, FULL, x -> x.insert(0, 59, 6));
             refused(STATE, FULL, x -> x.insert(0, 60, 6));
@@ -245,7 +265,7 @@ final class TextSentences extends Sentences {
     }
 
     private static void set() {
-        promise(6);
+        changes(6);
         says("Puts another word at a place of a text.", () -> {
             WordConcordance x = of(1, 2, 3);
             x.set(0, 0, 99);
@@ -261,6 +281,11 @@ final class TextSentences extends Sentences {
         places("place: a place of it", (x, text, place) -> x.set(text, place, 6));
         word(FULL, (x, word) -> x.set(0, 0, word));
         says("Returns the word before.", () -> {
+            done(ONE, 8, 2, x -> x.set(2, 0, 9));
+            told(ONE, 8, x -> x.set(2, 0, 8));
+            done(SAMPLE, 3, 1, x -> x.set(1, 3, 9));
+            done(Room::counted, 0, 0, x -> x.set(0, 0, 99));
+            done(Room::counted, 59, 0, x -> x.set(0, 59, 99));
             WordConcordance x = of(1, 99, 0);
             is("the first one", x.set(0, 0, 7), 1);
             is("the next one", x.set(0, 1, 8), 99);
@@ -280,7 +305,7 @@ final class TextSentences extends Sentences {
     }
 
     private static void remove() {
-        promise(7);
+        changes(7);
         says("Removes the word at a place of a text.", () -> {
             WordConcordance x = of(1, 2, 3, 4);
             x.remove(0, 1);
@@ -299,6 +324,10 @@ final class TextSentences extends Sentences {
         text(FULL, (x, text) -> x.remove(text, 0));
         places("place: a place of it", (x, text, place) -> x.remove(text, place));
         says("Returns the word.", () -> {
+            done(ONE, 9, 3, x -> x.remove(3, 0));
+            done(SAMPLE, 7, 1, x -> x.remove(1, 1));
+            done(Room::counted, 0, 0, x -> x.remove(0, 0));
+            done(Room::counted, 59, 0, x -> x.remove(0, 59));
             WordConcordance x = of(1, 99, 0, 4);
             is("between", x.remove(0, 1), 99);
             is("the last one", x.remove(0, 2), 4);
@@ -316,7 +345,7 @@ final class TextSentences extends Sentences {
     }
 
     private static void cut() {
-        promise(8);
+        changes(8);
         says("Removes a part of a text.", () -> {
             WordConcordance x = of(1, 2, 3, 4, 5, 6);
             x.cut(0, 1, 3);
@@ -347,6 +376,13 @@ final class TextSentences extends Sentences {
         text(FULL, (x, text) -> x.cut(text, 0, 60));
         part((x, text, from, to) -> x.cut(text, from, to));
         says("Returns how many words the text has then.", () -> {
+            done(ONE, 0, 2, x -> x.cut(2, 0, 1));
+            told(ONE, 1, x -> x.cut(2, 1, 1));
+            told(EMPTY, 0, x -> x.cut(0, 0, 0));
+            done(FULL, 0, 3, x -> x.cut(3, 0, 60));
+            done(FULL, 59, 0, x -> x.cut(0, 59, 60));
+            told(FULL, 60, x -> x.cut(1, 0, 0));
+            done(Room::counted, 1, 0, x -> x.cut(0, 1, 60));
             WordConcordance x = Room.FULL.open();
             is("none of a full text", x.cut(0, 60, 60), 60);
             is("one of a full text", x.cut(0, 59, 60), 59);
@@ -380,14 +416,15 @@ final class TextSentences extends Sentences {
     }
 
     private static void size() {
-        promise(9);
+        asks(9);
         says("Returns the number of words of a text.", () -> {
             told(SAMPLE, 60, x -> x.size(0));
             told(SAMPLE, 4, x -> x.size(1));
             told(SAMPLE, 0, x -> x.size(2));
         });
-        text(EMPTY, (x, text) -> x.size(text));
+        text(FULL, (x, text) -> x.size(text));
         says("Returns how many there are.", () -> {
+            told(ONE, 1, x -> x.size(2));
             told(EMPTY, 0, x -> x.size(3));
             told(FULL, 60, x -> x.size(3));
             told(() -> of(0), 1, x -> x.size(0));
@@ -399,7 +436,7 @@ final class TextSentences extends Sentences {
     }
 
     private static void at() {
-        promise(10);
+        asks(10);
         says("Returns a word of a text.", () -> {
             told(SAMPLE, 5, x -> x.at(1, 0));
             told(SAMPLE, 7, x -> x.at(1, 1));
@@ -408,6 +445,8 @@ final class TextSentences extends Sentences {
         text(FULL, (x, text) -> x.at(text, 0));
         places("place: a place of it", (x, text, place) -> x.at(text, place));
         says("Returns the word.", () -> {
+            told(ONE, 9, x -> x.at(3, 0));
+            told(Room::counted, 59, x -> x.at(0, 59));
             told(SAMPLE, 38, x -> x.at(0, 0));
             told(SAMPLE, 3, x -> x.at(1, 3));
             told(() -> Room.ofMany(99, 60), 99, x -> x.at(0, 59));
@@ -427,7 +466,7 @@ final class TextSentences extends Sentences {
     }
 
     private static void digest() {
-        promise(11);
+        asks(11);
         says("Returns a digest of a text: 7 at first, then, for each of its words in their order, 31 times as much, plus the word, "
             + "modulo 2^32 (as an int).", () -> {
             told(EMPTY, 7, x -> x.digest(0));
@@ -440,8 +479,10 @@ final class TextSentences extends Sentences {
                 told(() -> Room.ofMany(99, words), digestOf(99, many), x -> x.digest(0));
             }
         });
-        text(EMPTY, (x, text) -> x.digest(text));
+        text(FULL, (x, text) -> x.digest(text));
         says("Returns this.", () -> {
+            told(ONE, 226, x -> x.digest(3));
+            told(SAMPLE, 7, x -> x.digest(2));
             // The sums are 2^31 and 2^33, each with the number before it.
             told(() -> of(8, 0, 29, 29, 5, 5), GREATEST, x -> x.digest(0));
             told(() -> of(8, 0, 29, 29, 5, 6), LEAST, x -> x.digest(0));
@@ -464,7 +505,7 @@ final class TextSentences extends Sentences {
     }
 
     private static void setRank() {
-        promise(12);
+        changes(12);
         says("Sets the rank of a word.", () -> {
             WordConcordance x = of(4, 6);
             x.setRank(4, 5);
@@ -475,13 +516,18 @@ final class TextSentences extends Sentences {
             x.setRank(4, 0);
             is("the greatest rank then", x.greatest(0, BY_RANK), 0);
         });
-        word(EMPTY, (x, word) -> x.setRank(word, 3));
+        word(ONE, (x, word) -> x.setRank(word, 3));
         says("rank: -9 to 9", () -> {
             limits(ARGUMENT, EMPTY, -9, 9, (x, rank) -> x.setRank(0, rank));
             limits(ARGUMENT, SAMPLE, -9, 9, (x, rank) -> x.setRank(5, rank));
             limits(ARGUMENT, FULL, -9, 9, (x, rank) -> x.setRank(99, rank));
         });
         says("Returns its rank before.", () -> {
+            done(EMPTY, 0, RANKS_PART, x -> x.setRank(0, 1));
+            done(ONE, 2, RANKS_PART, x -> x.setRank(7, 3));
+            told(ONE, 2, x -> x.setRank(7, 2));
+            done(FULL, 9, RANKS_PART, x -> x.setRank(99, -9));
+            done(FULL, -9, RANKS_PART, x -> x.setRank(0, 9));
             WordConcordance x = new WordConcordance();
             is("at first", x.setRank(0, -9), 0);
             is("then", x.setRank(0, 9), -9);

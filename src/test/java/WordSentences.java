@@ -31,7 +31,7 @@ final class WordSentences extends Sentences {
     }
 
     private static void replaceWord() {
-        promise(22);
+        changes(22);
         says("Puts another word at all places of a word.", () -> {
             WordConcordance x = of(1, 2, 1, 3);
             x.replaceWord(0, 1, 99);
@@ -46,10 +46,16 @@ final class WordSentences extends Sentences {
             y.replaceWord(0, 7, 8);
             is("a full text", y.frequency(0, 8) + " " + y.frequency(0, 7), "60 0");
         });
-        text(EMPTY, (x, text) -> x.replaceWord(text, 1, 2));
+        text(FULL, (x, text) -> x.replaceWord(text, 1, 2));
         word(FULL, (x, word) -> x.replaceWord(0, word, 2));
         says("other: a word", () -> numbers(FULL, 0, 99, (x, other) -> x.replaceWord(0, 1, other)));
         says("Returns whether the first one stood in the text.", () -> {
+            done(ONE, true, 1, x -> x.replaceWord(1, 7, 6));
+            told(ONE, false, x -> x.replaceWord(2, 7, 6));
+            done(SAMPLE, true, 1, x -> x.replaceWord(1, 5, 6));
+            told(SAMPLE, false, x -> x.replaceWord(2, 5, 6));
+            done(Room::counted, true, 0, x -> x.replaceWord(0, 59, 99));
+            told(Room::counted, false, x -> x.replaceWord(0, 60, 99));
             is("it stood", of(1, 2).replaceWord(0, 1, 3), true);
             is("it stood at the end", of(1, 2).replaceWord(0, 2, 3), true);
             told(room(1, 2), true, x -> x.replaceWord(0, 1, 1));
@@ -73,15 +79,18 @@ final class WordSentences extends Sentences {
     }
 
     private static void frequency() {
-        promise(23);
+        asks(23);
         says("Counts how often a word stands in a text.", () -> {
             told(SAMPLE, 2, x -> x.frequency(1, 5));
             told(SAMPLE, 1, x -> x.frequency(1, 3));
             told(SAMPLE, 0, x -> x.frequency(3, 5));
         });
-        text(EMPTY, (x, text) -> x.frequency(text, 1));
+        text(FULL, (x, text) -> x.frequency(text, 1));
         word(FULL, (x, word) -> x.frequency(0, word));
         says("Returns how often.", () -> {
+            told(ONE, 1, x -> x.frequency(2, 8));
+            told(ONE, 0, x -> x.frequency(2, 7));
+            told(Room::counted, 1, x -> x.frequency(0, 59));
             told(EMPTY, 0, x -> x.frequency(0, 0));
             told(SAMPLE, 0, x -> x.frequency(1, 4));
             told(roomOfMany(99, 60), 60, x -> x.frequency(0, 99));
@@ -99,14 +108,16 @@ final class WordSentences extends Sentences {
     }
 
     private static void different() {
-        promise(24);
+        asks(24);
         says("Counts the different words of a text.", () -> {
             told(SAMPLE, 3, x -> x.different(1));
             told(SAMPLE, 3, x -> x.different(3));
             told(room(7, 7, 7), 1, x -> x.different(0));
         });
-        text(EMPTY, (x, text) -> x.different(text));
+        text(FULL, (x, text) -> x.different(text));
         says("Returns how many there are.", () -> {
+            told(ONE, 1, x -> x.different(2));
+            told(Room::counted, 60, x -> x.different(0));
             told(EMPTY, 0, x -> x.different(0));
             told(room(0), 1, x -> x.different(0));
             told(room(0, 99), 2, x -> x.different(0));
@@ -125,7 +136,7 @@ final class WordSentences extends Sentences {
     }
 
     private static void most() {
-        promise(25);
+        asks(25);
         says("Returns the word that stands most often in a text.", () -> {
             told(room(9, 4, 8, 4, 9, 9), 9, x -> x.most(0));
             told(room(1, 1, 2, 2, 2), 2, x -> x.most(0));
@@ -133,12 +144,16 @@ final class WordSentences extends Sentences {
         });
         text(FULL, (x, text) -> x.most(text));
         says("Returns the word, of several the least one.", () -> {
+            told(ONE, 9, x -> x.most(3));
+            told(Room::counted, 0, x -> x.most(0));
             told(room(9, 4, 8, 4, 9), 4, x -> x.most(0));
             told(room(4, 9, 8, 9, 4), 4, x -> x.most(0));
             told(room(7, 0, 99), 0, x -> x.most(0));
             told(room(0), 0, x -> x.most(0));
             told(room(99), 99, x -> x.most(0));
             told(roomOfMany(99, 60), 99, x -> x.most(0));
+            told(() -> halves(30), 0, x -> x.most(0));
+            told(() -> halves(31), 99, x -> x.most(0));
         });
         says("Throws IndexOutOfBoundsException if there is no such text", () -> {
             refused(INDEX, SAMPLE, x -> x.most(4));
@@ -151,8 +166,15 @@ final class WordSentences extends Sentences {
         });
     }
 
+    /** A full text of so many words 99, and of words 0 behind them. */
+    private static WordConcordance halves(int many) {
+        WordConcordance x = Room.ofMany(99, many);
+        x.addMany(0, 0, 60 - many);
+        return x;
+    }
+
     private static void isApart() {
-        promise(26);
+        asks(26);
         says("Tells whether two texts have no word in common.", () -> {
             told(PAIR, false, x -> x.isApart(0, 1));
             told(PAIR, false, x -> x.isApart(1, 0));
@@ -162,6 +184,11 @@ final class WordSentences extends Sentences {
         one(FULL, (x, one) -> x.isApart(one, 0));
         says("other: number of a text", () -> numbers(FULL, 0, 3, (x, other) -> x.isApart(0, other)));
         says("Returns whether they have none.", () -> {
+            told(ONE, false, x -> x.isApart(0, 1));
+            told(ONE, true, x -> x.isApart(1, 2));
+            told(ONE, false, x -> x.isApart(3, 3));
+            told(FULL, false, x -> x.isApart(0, 0));
+            told(Room::counted, true, x -> x.isApart(0, 1));
             told(PAIR, true, x -> x.isApart(0, 3));
             told(PAIR, true, x -> x.isApart(3, 0));
             told(EMPTY, true, x -> x.isApart(0, 1));
@@ -186,7 +213,7 @@ final class WordSentences extends Sentences {
     }
 
     private static void alone() {
-        promise(27);
+        asks(27);
         says("Counts the different words of a text that do not stand in another one.", () -> {
             told(PAIR, 2, x -> x.alone(0, 1));
             told(PAIR, 1, x -> x.alone(1, 0));
@@ -195,6 +222,11 @@ final class WordSentences extends Sentences {
         one(FULL, (x, one) -> x.alone(one, 0));
         says("other: number of the other one", () -> numbers(FULL, 0, 3, (x, other) -> x.alone(0, other)));
         says("Returns how many there are.", () -> {
+            told(ONE, 0, x -> x.alone(0, 1));
+            told(ONE, 1, x -> x.alone(1, 2));
+            told(FULL, 0, x -> x.alone(0, 0));
+            told(Room::counted, 60, x -> x.alone(0, 1));
+            told(Room::counted, 0, x -> x.alone(1, 0));
             told(PAIR, 3, x -> x.alone(1, 3));
             told(PAIR, 0, x -> x.alone(3, 1));
             told(PAIR, 0, x -> x.alone(0, 0));
@@ -216,13 +248,13 @@ final class WordSentences extends Sentences {
     }
 
     private static void meanWord() {
-        promise(43);
+        asks(43);
         says("Returns the mean of the words of a text.", () -> {
             told(room(1, 2, 2), 5.0 / 3.0, x -> x.meanWord(0));
             told(room(0, 1), 0.5, x -> x.meanWord(0));
             told(SAMPLE, 3.5, x -> x.meanWord(3));
         });
-        text(EMPTY, (x, text) -> x.meanWord(text));
+        text(FULL, (x, text) -> x.meanWord(text));
         says("Returns all of them added up and converted to double, divided by their number, converted to double; 0.0 without words.",
             () -> {
             told(EMPTY, 0.0, x -> x.meanWord(0));
@@ -230,6 +262,8 @@ final class WordSentences extends Sentences {
             told(room(0, 0), 0.0, x -> x.meanWord(0));
             told(room(99), 99.0, x -> x.meanWord(0));
             told(roomOfMany(99, 60), 99.0, x -> x.meanWord(0));
+            told(ONE, 8.0, x -> x.meanWord(2));
+            told(Room::counted, 29.5, x -> x.meanWord(0));
             told(room(0, 0, 1), 0.3333333333333333, x -> x.meanWord(0));
             told(room(9, 0, 0, 1, 0, 0, 0), 1.4285714285714286, x -> x.meanWord(0));
             WordConcordance x = Room.ofMany(99, 59);
@@ -247,13 +281,13 @@ final class WordSentences extends Sentences {
     }
 
     private static void share() {
-        promise(44);
+        asks(44);
         says("Returns the share of the places of a text at which a word stands.", () -> {
             told(room(1, 2, 2), 2.0f / 3.0f, x -> x.share(0, 2));
             told(room(1, 2, 2), 1.0f / 3.0f, x -> x.share(0, 1));
             told(room(1, 2, 2), 0.0f, x -> x.share(0, 3));
         });
-        text(EMPTY, (x, text) -> x.share(text, 1));
+        text(FULL, (x, text) -> x.share(text, 1));
         word(FULL, (x, word) -> x.share(0, word));
         says("Returns how many there are, converted to float, divided by the number of words, converted to float; 0.0f without words.",
             () -> {
@@ -262,6 +296,8 @@ final class WordSentences extends Sentences {
             told(room(7), 1.0f, x -> x.share(0, 7));
             told(roomOfMany(7, 60), 1.0f, x -> x.share(0, 7));
             told(roomOfMany(7, 60), 0.0f, x -> x.share(0, 0));
+            told(ONE, 1.0f, x -> x.share(2, 8));
+            told(ONE, 0.0f, x -> x.share(2, 7));
             WordConcordance x = Room.ofMany(7, 59);
             x.add(0, 8);
             is("one of a full text", x.share(0, 8), 1.0f / 60.0f);
