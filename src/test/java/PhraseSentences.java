@@ -192,6 +192,10 @@ final class PhraseSentences extends Sentences {
             told(room, 4, x -> x.wordOf(WANTED, 0));
             told(room, 6, x -> x.wordOf(WANTED, 1));
             told(room, 99, x -> x.wordOf(NEW, 0));
+            kept(SAMPLE, x -> x.wordOf(WANTED, 0));
+            kept(ONE, x -> x.wordOf(NEW, 0));
+            kept(FULL, x -> x.wordOf(NEW, 11));
+            kept(replacing(row(), row(4), 4), x -> x.wordOf(NEW, 0));
         });
         phraseNumber(FULL, (x, phrase) -> x.wordOf(phrase, 0));
         says("place: its place in the phrase", () -> {

@@ -115,6 +115,24 @@ abstract class Sentences {
         is("what is changed after it", changed(x, room), List.of(part));
     }
 
+    /** All stands as before the call, as told by none of the calls that Room.state asks, which may change what they read. */
+    static void kept(Room room, Check.Call call) {
+        WordConcordance x = room.open();
+        Check.answer(x, call);
+        is("what other calls tell after it", glance(x), glance(room.open()));
+    }
+
+    private static String glance(WordConcordance x) {
+        StringBuilder all = new StringBuilder();
+        for (int text = 0; text < 4; text++) {
+            int one = text;
+            all.append(x.digest(text)).append(' ').append(x.find(text)).append(' ');
+            all.append(Check.answer(x, z -> z.greatest(one, BY_RANK))).append(Check.answer(x, z -> z.least(one, BY_RANK))).append(' ');
+            all.append(Check.answer(x, z -> z.replace(one))).append(' ').append(x.digest(text)).append(' ');
+        }
+        return all.toString();
+    }
+
     private static List<Integer> changed(WordConcordance x, Room room) {
         List<String> before = Room.state(room.open());
         List<String> after = Room.state(x);

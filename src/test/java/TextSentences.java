@@ -421,6 +421,10 @@ final class TextSentences extends Sentences {
             told(SAMPLE, 60, x -> x.size(0));
             told(SAMPLE, 4, x -> x.size(1));
             told(SAMPLE, 0, x -> x.size(2));
+            kept(SAMPLE, x -> x.size(2));
+            kept(ONE, x -> x.size(0));
+            kept(FULL, x -> x.size(3));
+            kept(EMPTY, x -> x.size(0));
         });
         text(FULL, (x, text) -> x.size(text));
         says("Returns how many there are.", () -> {
@@ -441,6 +445,10 @@ final class TextSentences extends Sentences {
             told(SAMPLE, 5, x -> x.at(1, 0));
             told(SAMPLE, 7, x -> x.at(1, 1));
             told(SAMPLE, 1, x -> x.at(3, 0));
+            kept(SAMPLE, x -> x.at(3, 0));
+            kept(ONE, x -> x.at(0, 0));
+            kept(FULL, x -> x.at(3, 59));
+            kept(() -> of(4), x -> x.at(0, 0));
         });
         text(FULL, (x, text) -> x.at(text, 0));
         places("place: a place of it", (x, text, place) -> x.at(text, place));
