@@ -205,9 +205,10 @@ public final class WordConcordance {
     private void draftReplaced(Row row) {
         Row wanted = phrases[WANTED];
         Row fresh = phrases[NEW];
+        int end = row.length;
         int next = 0;
         draft.length = 0;
-        for (int place = 0; place < row.length; place++) {
+        for (int place = 0; place < end; place++) {
             if (place < next) {
                 continue;
             }
@@ -710,7 +711,9 @@ public final class WordConcordance {
         }
 
         void appendAll(Row other) {
-            for (int i = 0; i < other.length; i++) {
+            // Taken once: a bound that append could move would not show where the loop ends.
+            int many = other.length;
+            for (int i = 0; i < many; i++) {
                 append(other.words[i]);
             }
         }

@@ -11,7 +11,7 @@ import java.util.TreeMap;
 import java.util.regex.Matcher;
 import java.util.regex.Pattern;
 
-/** The sentences of ../shared/DOC.md, and which of them have been tested. */
+/** The face and the sentences of ../shared/DOC.md, and which of the sentences have been tested. */
 final class Document {
     private static final Path DOCUMENT = Path.of("../shared/DOC.md");
     private static final Pattern PROMISE = Pattern.compile("## Promise (\\d+): .*");
@@ -26,10 +26,6 @@ final class Document {
 
     /** Each sentence has a test, and each test tells a sentence that stands in the document. */
     static void compare() {
-        if (!Files.isReadable(DOCUMENT)) {
-            System.out.println("no " + DOCUMENT + ": its sentences are not compared with the tests");
-            return;
-        }
         Map<Integer, Set<String>> all = sentences();
         Check.is("the promises", all.keySet().toString(), TESTED.keySet().toString());
         for (int promise : all.keySet()) {
@@ -37,6 +33,20 @@ final class Document {
             Check.is("promise " + promise + ": sentences without a test", without(all.get(promise), tested), List.of());
             Check.is("promise " + promise + ": tests without a sentence", without(tested, all.get(promise)), List.of());
         }
+    }
+
+    /** The lines of the public face, as they stand in the document. */
+    static List<String> face() {
+        List<String> all = new ArrayList<>();
+        boolean isFace = false;
+        for (String line : lines()) {
+            if (line.startsWith("```")) {
+                isFace = !isFace;
+            } else if (isFace && !line.isBlank()) {
+                all.add(line.strip());
+            }
+        }
+        return all;
     }
 
     private static List<String> without(Set<String> some, Set<String> others) {
@@ -65,6 +75,7 @@ final class Document {
         return all;
     }
 
+    // It lies beside the project wherever the tests run: without it they fail.
     private static List<String> lines() {
         try {
             return Files.readAllLines(DOCUMENT, StandardCharsets.UTF_8);
@@ -73,9 +84,9 @@ final class Document {
         }
     }
 
-    // Headings, and the line that only tells what the thing is for, promise nothing.
+    // Headings promise nothing.
     private static boolean isTold(String line) {
-        return !line.isBlank() && !line.startsWith("#") && !line.matches("\\d+\\. \\w+") && !line.startsWith("A small concordance");
+        return !line.isBlank() && !line.startsWith("#") && !line.matches("\\d+\\. \\w+");
     }
 
     private static String plain(String line) {

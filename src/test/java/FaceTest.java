@@ -1,8 +1,12 @@
+import java.io.IOException;
 import java.lang.reflect.Constructor;
 import java.lang.reflect.Field;
 import java.lang.reflect.Method;
 import java.lang.reflect.Modifier;
+import java.nio.file.Files;
+import java.nio.file.Path;
 import java.util.Arrays;
+import java.util.List;
 import java.util.TreeSet;
 
 /** The public face: just the members that the document names, and nothing else that can be seen from outside. */
@@ -20,7 +24,10 @@ public final class FaceTest {
         "int copy(int,int) IS", "int stands(int,int) IN", "int near(int,int,int) I", "int common(int,int,int) IA",
         "boolean refuses(int) A", "int errors(int) I", "double meanWord(int) I", "float share(int,int) I");
 
-    public static void main(String[] args) {
+    private static final Path SOURCE = Path.of("src/main/java/WordConcordance.java");
+    private static final Path DOCUMENT = Path.of("../shared/DOC.md");
+
+    public static void main(String[] args) throws IOException {
         int kind = WordConcordance.class.getModifiers();
         Check.is("public final class", Modifier.isPublic(kind) && Modifier.isFinal(kind), true);
         Check.is("the methods", methods(), new TreeSet<>(Arrays.asList(METHODS.split("\n"))));
@@ -30,7 +37,20 @@ public final class FaceTest {
         Check.is("one constructor", constructors.length, 1);
         Check.is("it is public", Modifier.isPublic(constructors[0].getModifiers()), true);
         Check.is("it takes nothing", constructors[0].getParameterCount() + constructors[0].getExceptionTypes().length, 0);
+        Check.is("the face in the document's own words", told(SOURCE, Files.readAllLines(SOURCE)), told(DOCUMENT, Document.face()));
         Check.end();
+    }
+
+    /** What a text declares as public, or imports, without what comes behind a head. */
+    private static TreeSet<String> told(Path from, List<String> lines) {
+        TreeSet<String> all = new TreeSet<>();
+        for (String line : lines) {
+            String head = line.strip().replaceFirst("( \\{|;)$", "");
+            if ((head.startsWith("public ") || head.startsWith("import ")) && !all.add(head)) {
+                all.add("twice in " + from + ": " + head);
+            }
+        }
+        return all;
     }
 
     private static TreeSet<String> methods() {

@@ -10,6 +10,7 @@ final class TermSentences extends Sentences {
 
     static void all() {
         changes(0);
+        whatItIs();
         calls();
         orderInTexts();
         orderInPhrases();
@@ -25,6 +26,30 @@ final class TermSentences extends Sentences {
         sorted();
         constants();
         newObject();
+    }
+
+    private static void whatItIs() {
+        says("A small concordance: texts as rows of words, which are numbers; phrases are found, counted and put in place of others; "
+            + "words are counted, compared, sorted, searched, turned, moved round and replaced; which words and phrases texts have in "
+            + "common, and where each word stands.", () -> {
+            WordConcordance x = of(3, 1, 2, 1, 2);
+            Room.say(x, WANTED, 1, 2);
+            is("where the phrase is found", x.find(0), 1);
+            is("how often it is counted", x.count(0, true), 2);
+            Room.say(x, NEW, 9, 8, 7);
+            is("how often another one is put in its place", x.replace(0) + words(x, 0), "2[3, 9, 8, 7, 9, 8, 7]");
+            is("how often a word is counted", x.frequency(0, 9), 2);
+            is("the greatest word", x.greatest(0, BY_NUMBER), 9);
+            is("the words sorted", x.sort(0, BY_NUMBER, false) + words(x, 0), "6[3, 7, 7, 8, 8, 9, 9]");
+            is("a word searched", x.search(0, BY_NUMBER, 5), 1);
+            is("the words turned", x.turn(0, 0, 3) + words(x, 0), "3[7, 7, 3, 8, 8, 9, 9]");
+            is("the words moved round", x.move(0, 0, 7, 2) + words(x, 0), "2[9, 9, 7, 7, 3, 8, 8]");
+            is("a word replaced", x.replaceWord(0, 7, 4) + words(x, 0), "true[9, 9, 4, 4, 3, 8, 8]");
+            Room.put(x, 1, 5, 4, 3, 8);
+            is("a word in common", x.isApart(0, 1), false);
+            is("a phrase in common", x.common(0, 1, 0) + " " + x.common(0, 1, 1) + " " + x.common(0, 1, 2), "3 3 1");
+            is("where a word stands", x.stands(4, 0) + " " + x.stands(4, 1) + " " + x.stands(4, 2), "2 3 101");
+        });
     }
 
     private static void calls() {
